@@ -486,10 +486,10 @@ public final class LastMap {
     }
 
     private int firstNearer(Table table, int code, int kinds) {
-        int wanted = table.slipsFrom(code) - 1;
+        int wanted = table.known(code) - 1;
         for (int i = 0; i < Slips.COUNT; i++) {
             int slip = Slips.inOrder(i);
-            if (Slips.isMade(slip, kinds, papers.siteCount) && table.slipsFrom(Slips.after(code, slip)) == wanted) {
+            if (Slips.isMade(slip, kinds, papers.siteCount) && table.known(Slips.after(code, slip)) == wanted) {
                 return slip;
             }
         }
@@ -563,6 +563,11 @@ public final class LastMap {
             return site >= 0 && site < WEIGHTS.length ? WEIGHTS[site] : 1;
         }
 
+        static int countOf(int n) {
+            int weight = weight(n - 1);
+            return weight < 1 ? 0 : COUNT / weight;
+        }
+
         static int signAt(int code, int site) {
             return signBy(code, weight(site));
         }
@@ -633,8 +638,6 @@ public final class LastMap {
 
     /** What a row of slips must come to: a sign or any at each site, three bits a site. */
     private static final class Goals {
-        static final int BITS = 18;
-
         static int with(int goal, int site, int mark) {
             return goal | mark << 3 * site;
         }
@@ -814,37 +817,123 @@ public final class LastMap {
         }
     }
 
-    /** The fewest slips from every map to one goal. */
+    /** The fewest slips from maps to one goal, searched backwards from it, and only as far as was asked. */
     private static final class Table {
-        int key = -1;
-        final byte[] slips = new byte[Maps.COUNT];
+        private static final int NO_MAP = -1;
+        private final byte[] slips = new byte[Maps.COUNT];
+        private final int[] queue = new int[Maps.COUNT];
+        private int queued;
+        private int searched;
+        private int goal;
+        private int kinds;
+        private int n;
+
+        boolean isFor(int otherGoal, int otherKinds, int otherN) {
+            return goal == otherGoal && kinds == otherKinds && n == otherN;
+        }
+
+        void begin(int newGoal, int newKinds, int newN) {
+            goal = newGoal;
+            kinds = newKinds;
+            n = newN;
+            queued = 0;
+            searched = 0;
+            Arrays.fill(slips, (byte) NONE);
+            queueGoal(0, 0);
+        }
 
         int slipsFrom(int code) {
+            searchFor(code);
+            return known(code);
+        }
+
+        /* Behind slipsFrom all maps that are nearer than that one are known. */
+        int known(int code) {
             return code >= 0 && code < slips.length ? slips[code] : NONE;
+        }
+
+        void searchAll() {
+            searchFor(NO_MAP);
+        }
+
+        private void searchFor(int code) {
+            int all = Maps.countOf(n);
+            while (known(code) == NONE && queued < all && searched < queued && searched < queue.length) {
+                queueBefore(queue[searched]);
+                searched++;
+            }
+        }
+
+        private void queueGoal(int site, int code) {
+            if (site >= n || site >= MOST_SITES) {
+                reach(code, 0);
+                return;
+            }
+            int mark = Goals.markAt(goal, site);
+            for (int sign = 0; sign < SIGNS; sign++) {
+                if (mark == ANY || mark == sign) {
+                    queueGoal(site + 1, code + sign * Maps.weight(site));
+                }
+            }
+        }
+
+        /* All maps of which a single slip makes this one. */
+        private void queueBefore(int code) {
+            int many = known(code) + 1;
+            int left = -1;
+            for (int site = 0; site < n; site++) {
+                int weight = Maps.weight(site);
+                int sign = Maps.signBy(code, weight);
+                if (canHaveMade(left, sign)) {
+                    int cleared = code - sign * weight;
+                    for (int other = 0; other < SIGNS; other++) {
+                        reach(cleared + other * weight, many);
+                    }
+                }
+                if (left >= 0 && left != sign && (kinds >> SWAPPED & 1) != 0) {
+                    int leftWeight = SIGNS * weight;
+                    reach(code + (sign - left) * (leftWeight - weight), many);
+                }
+                left = sign;
+            }
+        }
+
+        /* Whether one slip can have put this sign, whatever was there. */
+        private boolean canHaveMade(int left, int sign) {
+            return left == sign && (kinds >> TWICE & 1) != 0
+                || (kinds >> (sign == GAP ? LEFT_OUT : MISREAD) & 1) != 0;
+        }
+
+        /* Only the first row that gets to a map counts: it is the shortest. */
+        private void reach(int code, int many) {
+            if (code < 0 || code >= slips.length || slips[code] != NONE) {
+                return;
+            }
+            if (queued >= 0 && queued < queue.length) {
+                slips[code] = (byte) many;
+                queue[queued] = code;
+                queued++;
+            }
         }
     }
 
-    /** Makes tables backwards from their goals, and keeps some, for calls often ask for one again. */
+    /** Keeps some tables, for calls often ask for one again; and sums of tables. */
     private static final class Search {
-        private static final int KEPT = 12;
+        private static final int KEPT = 8;
         private final Table[] tables = new Table[KEPT];
-        private final int[] queue = new int[Maps.COUNT];
         private final int[] sums = new int[Maps.COUNT];
-        private int queued;
         private int oldest;
 
-        /* A table is good until the next call of this: it may be made anew for another goal then. */
+        /* A table is good until the next call of this: it may be begun anew for another goal then. */
         Table toward(int goal, int kinds, int n) {
-            int key = goal | kinds << Goals.BITS | n << Goals.BITS + 4;
             for (int i = 0; i < tables.length; i++) {
                 Table table = tables[i];
-                if (table != null && table.key == key) {
+                if (table != null && table.isFor(goal, kinds, n)) {
                     return table;
                 }
             }
             Table table = takeOldest();
-            table.key = key;
-            fill(table, goal, kinds, n);
+            table.begin(goal, kinds, n);
             return table;
         }
 
@@ -859,73 +948,14 @@ public final class LastMap {
             return table;
         }
 
-        private void fill(Table table, int goal, int kinds, int n) {
-            Arrays.fill(table.slips, (byte) NONE);
-            queued = 0;
-            queueGoal(table, goal, n, 0, 0);
-            for (int head = 0; head < queued && head < queue.length; head++) {
-                queueBefore(table, queue[head], kinds, n);
-            }
-        }
-
-        private void queueGoal(Table table, int goal, int n, int site, int code) {
-            if (site >= n || site >= MOST_SITES) {
-                reach(table, code, 0);
-                return;
-            }
-            int mark = Goals.markAt(goal, site);
-            for (int sign = 0; sign < SIGNS; sign++) {
-                if (mark == ANY || mark == sign) {
-                    queueGoal(table, goal, n, site + 1, code + sign * Maps.weight(site));
-                }
-            }
-        }
-
-        /* All maps of which a single slip makes this one. */
-        private void queueBefore(Table table, int code, int kinds, int n) {
-            int many = table.slipsFrom(code) + 1;
-            int left = -1;
-            for (int site = 0; site < n; site++) {
-                int weight = Maps.weight(site);
-                int sign = Maps.signBy(code, weight);
-                if (canHaveMade(kinds, left, sign)) {
-                    int cleared = code - sign * weight;
-                    for (int other = 0; other < SIGNS; other++) {
-                        reach(table, cleared + other * weight, many);
-                    }
-                }
-                if (left >= 0 && left != sign && (kinds >> SWAPPED & 1) != 0) {
-                    int leftWeight = SIGNS * weight;
-                    reach(table, code + (sign - left) * (leftWeight - weight), many);
-                }
-                left = sign;
-            }
-        }
-
-        /* Whether one slip can have put this sign, whatever was there. */
-        private static boolean canHaveMade(int kinds, int left, int sign) {
-            return left == sign && (kinds >> TWICE & 1) != 0
-                || (kinds >> (sign == GAP ? LEFT_OUT : MISREAD) & 1) != 0;
-        }
-
-        /* Only the first row that gets to a map counts: it is the shortest. */
-        private void reach(Table table, int code, int many) {
-            byte[] slips = table.slips;
-            boolean isNew = code >= 0 && code < slips.length && slips[code] == NONE;
-            if (isNew && queued >= 0 && queued < queue.length) {
-                slips[code] = (byte) many;
-                queue[queued] = code;
-                queued++;
-            }
-        }
-
         void clearSums() {
             Arrays.fill(sums, 0);
         }
 
         void addToSums(Table table) {
+            table.searchAll();
             for (int code = 0; code < sums.length; code++) {
-                int slips = table.slipsFrom(code);
+                int slips = table.known(code);
                 sums[code] = slips < 0 || sums[code] < 0 ? NONE : sums[code] + slips;
             }
         }
