@@ -17,6 +17,7 @@ public final class LastMap {
     private Search search;
     private Trees trees;
 
+    /** Six sites, no map told. */
     public LastMap() {
     }
 
@@ -399,7 +400,7 @@ public final class LastMap {
         return (papers.toldMaps & set) == set;
     }
 
-    /* Guards the shift too: what less 10 is a MAP only from 10 on. */
+    /* Less than 10 is looked at first: the lowest numbers less 10 would wrap around. */
     private static boolean isTreeQuestion(int set, int what) {
         return what == 0 || what == 1 || what >= 10 && isOf(set, what - 10);
     }

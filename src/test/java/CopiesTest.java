@@ -9,6 +9,7 @@ public final class CopiesTest {
         copyRefused();
         far();
         farByKinds();
+        farOfOtherSites();
         farRefused();
         who();
         between();
@@ -128,6 +129,7 @@ public final class CopiesTest {
         row("abc", "abc", 15);
         row("abc", "bac", 15, 100);
         row("abc", "abd", 15, 23);
+        row("bbc", "abc", 15, 0);
         row("abc", "ab-", 15, 320);
         row("abc", "aac", 15, 10);
         row("abc", "bbb", 15, 1, 21);
@@ -152,6 +154,24 @@ public final class CopiesTest {
         noRow("aab", "abb", 2);
         noRow("a-", "-a", 1);
         row("ab", "ab", 0);
+    }
+
+    /* The same signs with an a more behind them are another map. */
+    private static void farOfOtherSites() {
+        LastMap x = new LastMap();
+        for (int n = 2; n <= 6; n++) {
+            x.sites(n);
+            Due.tell(x, 0, "b".repeat(n));
+            Due.tell(x, 1, "ca" + "a".repeat(n - 2));
+            DUE.is("11: far(0, 1, 0, -1) with " + n + " sites", x.far(0, 1, 0, -1), n);
+            DUE.is("11: far(0, 1, 0, n - 1)", x.far(0, 1, 0, n - 1), 10 * (n - 1));
+        }
+        for (int n = 6; n >= 2; n--) {
+            x.sites(n);
+            Due.tell(x, 0, "-".repeat(n));
+            Due.tell(x, 1, "ca" + "a".repeat(n - 2));
+            DUE.is("11: far(0, 1, 0, -1) with " + n + " sites", x.far(0, 1, 0, -1), n);
+        }
     }
 
     private static void farRefused() {

@@ -23,6 +23,8 @@ public final class LandTest {
         DUE.is("18: spades(6)", x.spades(6), 1);
         DUE.is("18: spades(2)", x.spades(2), 6);
         DUE.is("18: told(3)", x.told(3), 2);
+        DUE.is("18: spades(1)", x.spades(1), 2);
+        DUE.is("18: told(3)", x.told(3), 1);
     }
 
     private static void land() {
@@ -108,6 +110,12 @@ public final class LandTest {
         DUE.is("22: drawn(9, 0, 3, 60, 0)", x.drawn(9, 0, 3, 60, 0), 'a');
         DUE.is("22: drawn(9, 0, 3, 59, -1)", x.drawn(9, 0, 3, 59, -1), 2);
         DUE.holds("22: the map stays", Due.read(x, 0).equals("a-"));
+        // of bb eight are some (c0a c0c c0d c1a c1c c1d o0 o1); x is 3074: number 2; 2924: number 4
+        Due.tell(x, 1, "bb");
+        DUE.is("22: drawn(40, 1, 0, 1, 0)", x.drawn(40, 1, 0, 1, 0), 'd');
+        DUE.is("22: drawn(38, 1, 0, 1, 1)", x.drawn(38, 1, 0, 1, 1), 'c');
+        // x is 224, number 0: c0a
+        DUE.is("22: drawn(2, 1, 0, 1, 0)", x.drawn(2, 1, 0, 1, 0), 'a');
     }
 
     private static void drawnRefused() {

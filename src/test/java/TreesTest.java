@@ -109,6 +109,8 @@ public final class TreesTest {
         x.hand(1, 8);
         found(x, 5, 1, 1, "abc");
         found(x, 4, 1, 0, "ab-");
+        found(with("aaa", "baa"), 3, 0, 1, "aaa");
+        found(with("baa", "aba", "aab"), 7, 0, 2, "aba");
         DUE.is("15: lost(3, 1, -1)", x.lost(3, 1, -1), LastMap.NONE);
         DUE.is("15: lost(3, 1, 0)", x.lost(3, 1, 0), LastMap.NONE);
         LastMap y = with("-b", "a-");
