@@ -21,6 +21,15 @@ final class Due {
         }
     }
 
+    /** Two texts that must be alike. */
+    void same(String what, String got, String want) {
+        asked++;
+        if (!got.equals(want)) {
+            wrong++;
+            System.out.println("not so: " + what + "; seen was\n" + got + "due is\n" + want);
+        }
+    }
+
     /** Ends the test: with exit code 1, if an answer was not the one that is due. */
     void end() {
         System.out.println(asked + " answers, " + wrong + " not as due");
