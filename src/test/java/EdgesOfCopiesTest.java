@@ -18,6 +18,7 @@ public final class EdgesOfCopiesTest {
         farNoKinds();
         farOfEachKind();
         farFirstRow();
+        farByChangesOnly();
         farLongest();
         farIsOneWay();
         farOfSlipNumbers();
@@ -279,6 +280,17 @@ public final class EdgesOfCopiesTest {
         row("abcdab", "------", 15, 300, 200, 210, 220, 230, 240);
         row("------", "abcdab", 15, 0, 11, 22, 33, 40, 51);
         row("------", "abcdab", 1, 0, 11, 22, 33, 40, 51);
+    }
+
+    /* Only the next one is changed about with a SITE: the first has none before it, the last none behind it. */
+    private static void farByChangesOnly() {
+        noRow("-b", "ab", 2);
+        noRow("-b", "ab", 6);
+        noRow("ab", "ac", 2);
+        noRow("abcdab", "-bcdab", 2);
+        noRow("-bcdab", "abcdab", 2);
+        row("-bcdab", "b-cdba", 2, 100, 140);
+        row("abcdab", "bbcdaa", 2, 100, 110, 120, 140, 130, 120, 110);
     }
 
     /* Many changes about: more than 9 SLIPS are told as well. */

@@ -32,6 +32,7 @@ final class Witness {
         seen.append(what).append(' ').append(answer).append('\n');
     }
 
+    /* Only what is told is asked for: a refused call that changed something would hide itself here. */
     private void papers(String when) {
         seen.append(when).append('\n');
         for (int what = 0; what < 4; what++) {
@@ -41,7 +42,8 @@ final class Witness {
             note("kinds " + hand, x.told(10 + hand));
         }
         for (int map = 0; map < 6; map++) {
-            for (int site = 0; site < x.told(1); site++) {
+            boolean isTold = (x.told(2) >> map & 1) == 1;
+            for (int site = 0; isTold && site < x.told(1); site++) {
                 note("at " + map + " " + site, x.at(map, site));
             }
         }
