@@ -24,7 +24,9 @@ public final class FaceTest {
 
     public static void main(String[] args) throws IOException {
         face();
+        inside();
         words();
+        lengths();
         strangeNumbers();
         room();
         DUE.end();
@@ -62,6 +64,53 @@ public final class FaceTest {
         DUE.holds("one constructor", makers.length == 1 && makers[0].getParameterCount() == 0);
     }
 
+    /* LANGUAGE.md, rules 1, 2, 5 and 11: the classes inside, what is static, and how much there is of each. */
+    private static void inside() {
+        Class<?>[] classes = LastMap.class.getDeclaredClasses();
+        DUE.holds("no more than twelve classes", classes.length < 12);
+        bounds(LastMap.class);
+        for (Class<?> inner : classes) {
+            DUE.holds(inner + " is static", Modifier.isStatic(inner.getModifiers()));
+            DUE.holds(inner + " is private", Modifier.isPrivate(inner.getModifiers()));
+            DUE.holds(inner + " has no class inside", inner.getDeclaredClasses().length == 0);
+            bounds(inner);
+        }
+    }
+
+    private static void bounds(Class<?> one) {
+        Set<Class<?>> constants = Set.of(int.class, long.class, boolean.class, char.class, String.class,
+            int[].class, long[].class, char[].class, byte[].class);
+        int fields = 0;
+        for (Field field : one.getDeclaredFields()) {
+            if (Modifier.isStatic(field.getModifiers())) {
+                DUE.holds(field + " is final", Modifier.isFinal(field.getModifiers()));
+                DUE.holds(field + " is a constant", constants.contains(field.getType()));
+            } else {
+                fields++;
+            }
+        }
+        DUE.holds(one + " has no more than twenty fields", fields <= 20);
+        for (Method method : one.getDeclaredMethods()) {
+            DUE.holds(method + " takes no more than seven", method.getParameterCount() <= 7);
+        }
+    }
+
+    /* A method begins with a line that ends in ") {" and ends with a line that is as deep. */
+    private static void lengths() throws IOException {
+        String[] lines = Files.readString(Path.of("src/main/java/LastMap.java")).split("\n");
+        for (String depth : new String[] {"    ", "        "}) {
+            int start = -1;
+            for (int i = 0; i < lines.length; i++) {
+                if (lines[i].startsWith(depth + "}") && start >= 0) {
+                    DUE.holds("no more than sixty lines: " + lines[start], i - start < 60);
+                    start = -1;
+                } else if (lines[i].matches(depth + "[a-z].*\\) \\{")) {
+                    start = i;
+                }
+            }
+        }
+    }
+
     private static void words() throws IOException {
         String text = Files.readString(Path.of("src/main/java/LastMap.java"));
         for (String word : FORBIDDEN) {
@@ -69,6 +118,7 @@ public final class FaceTest {
         }
         String imports = text.replaceAll("(?m)^(?!import ).*\n?", "");
         DUE.holds("only Arrays is imported, not " + imports, imports.trim().equals("import java.util.Arrays;"));
+        DUE.holds("signs up to 126 alone", text.matches("[\\n -~]*"));
     }
 
     /* No call may throw, whatever it is given. */
